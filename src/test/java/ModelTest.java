@@ -1,4 +1,5 @@
 import java.util.ArrayList;
+import java.util.Arrays;
 import java.util.List;
 import java.util.Random;
 import java.util.TreeSet;
@@ -9,6 +10,7 @@ import java.util.TreeSet;
  */
 public final class ModelTest {
     private static final int RUNS = 150;
+    private static final int DEALINGS = 400;
     private static final int CALLS = 500;
     private static final int[] EXTREMES = {Integer.MIN_VALUE, -1, 0, 13, 301, Integer.MAX_VALUE};
 
@@ -20,6 +22,9 @@ public final class ModelTest {
     public static void main(String[] args) {
         for (int run = 0; run < RUNS && wrong < 10; run++) {
             play(run, new Random(run * 7919L + 17));
+        }
+        for (int run = 0; run < DEALINGS && wrong < 10; run++) {
+            playDealing(run, new Random(run * 104729L + 5));
         }
         for (int call = 0; call < answers.length; call++) {
             if (answers[call] == 0 || (refusals[call] == 0 && call != KEEP)) {
@@ -45,18 +50,60 @@ public final class ModelTest {
         StringBuilder story = new StringBuilder();
         for (int turn = 0; turn < CALLS; turn++) {
             int call = turn == 0 ? SIZE : pick(random, mood, turn);
-            int[] a = arguments(random, model, call, mood);
-            int want = model.answer(call, a);
-            int got = answer(shop, call, a);
-            asked++;
-            answers[call] += want >= 0 ? 1 : 0;
-            refusals[call] += want < 0 ? 1 : 0;
-            story.append(call).append(java.util.Arrays.toString(a)).append(" = ").append(want).append('\n');
-            if (got != want) {
-                wrong++;
-                System.out.println("run " + run + ":\n" + story + "answered " + got);
+            if (!ask(shop, model, story, call, arguments(random, model, call, mood))) {
+                System.out.println("in run " + run);
                 return;
             }
+        }
+    }
+
+    private static boolean ask(WeftShop shop, Model model, StringBuilder story, int call, int... a) {
+        int want = model.answer(call, a);
+        int got = answer(shop, call, a);
+        asked++;
+        answers[call] += want >= 0 ? 1 : 0;
+        refusals[call] += want < 0 ? 1 : 0;
+        story.append(call).append(Arrays.toString(a)).append(" = ").append(want).append('\n');
+        if (got != want) {
+            wrong++;
+            System.out.println(story + "answered " + got);
+        }
+        return got == want;
+    }
+
+    /** Some 8 fields of colour 1 and lots that don't suffice, so that much hangs on how they are dealt. */
+    private static void playDealing(int run, Random random) {
+        WeftShop shop = new WeftShop();
+        Model model = new Model();
+        StringBuilder story = new StringBuilder();
+        boolean same = ask(shop, model, story, SIZE, 12, 9 + random.nextInt(2));
+        int longest = 2 + random.nextInt(4);
+        int bars = 4 + random.nextInt(5);
+        int column = 0;
+        int row = random.nextInt(2);
+        for (int bar = 0; bar < bars; bar++) {
+            int length = 1 + random.nextInt(longest);
+            if (column + length > 12) {
+                column = 0;
+                row += 2;
+            }
+            same &= ask(shop, model, story, PAINT, column, row, length, 1, 1);
+            column += length + 1;
+        }
+        int lots = 1 + random.nextInt(4);
+        for (int lot = 0; lot < lots; lot++) {
+            same &= ask(shop, model, story, DYE, 1, 6 + random.nextInt(8 * longest));
+            same &= random.nextInt(3) > 0 || ask(shop, model, story, DYE, 0, 1 + random.nextInt(300));
+        }
+        for (int field = 0; field < 12; field++) {
+            same &= ask(shop, model, story, DEAL, field);
+            same &= ask(shop, model, story, LOT, field, 2);
+        }
+        for (int what = 0; what < 3; what++) {
+            same &= ask(shop, model, story, DEALT, 1, what);
+        }
+        if (!same) {
+            System.out.println("in dealing " + run);
         }
     }
 
@@ -379,12 +426,11 @@ public final class ModelTest {
         }
 
         List<Square> besides(int place) {
-            List<Square> out = new ArrayList<>();
-            for (int warp = 0; warp < columns; warp++) {
-                for (int pick = 0; pick < rows; pick++) {
-                    if (Math.abs(warp - place % columns) + Math.abs(pick - place / columns) == 1) {
-                        out.add(new Square(warp, pick));
-                    }
+            List<Square> out = new ArrayList<>(4);
+            int[][] ways = {{-1, 0}, {1, 0}, {0, -1}, {0, 1}};
+            for (int[] way : ways) {
+                if (square(place % columns + way[0], place / columns + way[1])) {
+                    out.add(new Square(place % columns + way[0], place / columns + way[1]));
                 }
             }
             return out;

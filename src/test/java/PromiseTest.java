@@ -34,6 +34,7 @@ public final class PromiseTest {
         lot();
         deal();
         dealTies();
+        dealFarTies();
         dealt();
         big();
         weaver();
@@ -51,6 +52,7 @@ public final class PromiseTest {
         many();
         takenDown();
         keepAndBack();
+        backWithStrips();
         refusedChangesNothing();
         System.out.println("PromiseTest: " + asked + " answers, " + wrong + " not as due");
         if (wrong != 0) {
@@ -421,6 +423,34 @@ public final class PromiseTest {
         due("14: not the fourth", three.deal(7), NONE);
     }
 
+    private static void bar(WeftShop x, int warp, int pick, int length) {
+        due("a bar", x.paint(12 - warp - length, pick, length, 1, 1), length);
+    }
+
+    /** Lot 1 for the first field would give the second lot 0; but the first field comes first. */
+    private static void dealFarTies() {
+        WeftShop x = sized(12, 10);
+        // yarn 6, 22, 14, 18, 18; of 46 in two lots 42 can be dealt at the most
+        bar(x, 1, 1, 1);
+        bar(x, 3, 1, 5);
+        bar(x, 1, 3, 3);
+        bar(x, 5, 3, 4);
+        bar(x, 1, 5, 4);
+        int[] yarns = {6, 22, 14, 18, 18};
+        for (int field = 1; field <= 5; field++) {
+            due("11: yarn of a bar", x.of(field, 2), yarns[field - 1]);
+        }
+        x.dye(1, 25);
+        x.dye(1, 21);
+        int[] want = {0, NONE, NONE, 0, 1};
+        for (int field = 1; field <= 5; field++) {
+            due("14: deal(" + field + ")", x.deal(field), want[field - 1]);
+        }
+        due("15: dealt", x.dealt(1, 0), 42);
+        due("13: dealt of lot 0", x.lot(0, 2), 24);
+        due("13: dealt of lot 1", x.lot(1, 2), 18);
+    }
+
     // ---- promise 15
 
     private static void dealt() {
@@ -459,6 +489,19 @@ public final class PromiseTest {
         eight.dye(1, 6);
         eight.dye(1, 6);
         due("15: 4 lots are not too many", eight.dealt(1, 2), 4);
+        // yarn 5, 5, 5, 5, 5, 4, 6, 5 in four lots of 6: the one of 6 must be dealt
+        int[] want = {0, 1, 2, NONE, NONE, NONE, 3, NONE};
+        int seen = 0;
+        for (int field = 0; field < eight.many(2); field++) {
+            if (eight.of(field, 0) == 1) {
+                due("14: 8 fields, 4 lots", eight.deal(field), want[seen]);
+                seen++;
+            }
+        }
+        due("14: 8 fields", seen, 8);
+        for (int lot = 0; lot < 4; lot++) {
+            due("13: 8 fields, 4 lots", eight.lot(lot, 2), lot == 3 ? 6 : 5);
+        }
         eight.dye(1, 6);
         due("13: 5 lots are", eight.lot(0, 2), BIG);
         due("13: though not for the yarn", eight.lot(4, 1), 6);
@@ -908,6 +951,42 @@ public final class PromiseTest {
         x.up();
         x.back();
         due("27: down as kept", x.strip(0, 0), DOWN);
+    }
+
+    /** All of a loom that is up comes back, though another one stood in between. */
+    private static void backWithStrips() {
+        WeftShop x = sized(7, 3);
+        x.weaver(2, false);
+        x.weaver(3, true);
+        x.weaver(2, true);
+        x.face(6, 1, true);
+        due("27: up", x.up(), 3);
+        x.days(2);
+        int[] kept = new int[21];
+        for (int i = 0; i < 21; i++) {
+            kept[i] = x.strip(i / 7, i % 7);
+        }
+        int[] woven = new int[21];
+        for (int i = 0; i < 21; i++) {
+            woven[i] = x.woven(i % 7, i / 7);
+        }
+        x.keep();
+        x.size(12, 10);
+        x.speed(0, 20);
+        x.weaver(19, false);
+        x.face(0, 0, true);
+        x.up();
+        x.days(3);
+        due("27: back", x.back(), 1);
+        for (int i = 0; i < 21; i++) {
+            due("27: strip(" + i / 7 + ", " + i % 7 + ")", x.strip(i / 7, i % 7), kept[i]);
+            due("27: woven(" + i % 7 + ", " + i / 7 + ")", x.woven(i % 7, i / 7), woven[i]);
+        }
+        due("27: no strip beyond", x.strip(3, 0), NUMBER);
+        // weaver 1 has 3 warps of work 3, 5, 3 a pick, weavers 0 and 2 have 2 each
+        due("27: speeds too", x.days(1), 2);
+        doneDue(x, "27: speeds too", 9, 6, 6);
+        due("27: days too", x.many(7), 3);
     }
 
     // ---- refused calls
