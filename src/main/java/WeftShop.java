@@ -109,18 +109,17 @@ public final class WeftShop {
     }
 
     public int slits(int what) {
-        switch (what) {
-            case 0:
-                return countSlits(now.board, 0);
-            case 1:
-                return countSlits(now.board, longestOpen);
-            case 2:
-                return picksOfSlits(now.board, longestOpen);
-            case 3:
-                return longestSlit(now.board);
-            default:
-                return NUMBER;
+        if (!isFromTo(what, 0, 3)) {
+            return NUMBER;
         }
+        Board board = now.board;
+        int told = 0;
+        for (int warp = 0; warp < board.columns - 1; warp++) {
+            for (int pick = 0; pick < board.rows; pick++) {
+                told = addSlit(what, told, board.lengthOfSlitFrom(warp, pick));
+            }
+        }
+        return told;
     }
 
     public int slit(int warp, int pick) {
@@ -385,39 +384,12 @@ public final class WeftShop {
         return pick * MOST_COLUMNS + warp;
     }
 
-    private static int countSlits(Board board, int longerThan) {
-        int count = 0;
-        for (int warp = 0; warp < board.columns - 1; warp++) {
-            for (int pick = 0; pick < board.rows; pick++) {
-                if (board.lengthOfSlitFrom(warp, pick) > longerThan) {
-                    count++;
-                }
-            }
+    private int addSlit(int what, int told, int length) {
+        if (what == 3) {
+            return Math.max(told, length);
         }
-        return count;
-    }
-
-    private static int picksOfSlits(Board board, int longerThan) {
-        int picks = 0;
-        for (int warp = 0; warp < board.columns - 1; warp++) {
-            for (int pick = 0; pick < board.rows; pick++) {
-                int length = board.lengthOfSlitFrom(warp, pick);
-                if (length > longerThan) {
-                    picks += length;
-                }
-            }
-        }
-        return picks;
-    }
-
-    private static int longestSlit(Board board) {
-        int longest = 0;
-        for (int warp = 0; warp < board.columns - 1; warp++) {
-            for (int pick = 0; pick < board.rows; pick++) {
-                longest = Math.max(longest, board.lengthOfSlitFrom(warp, pick));
-            }
-        }
-        return longest;
+        boolean counts = length > (what == 0 ? 0 : longestOpen);
+        return counts ? told + (what == 2 ? length : 1) : told;
     }
 
     /** All that keep() keeps and back() brings back. */

@@ -49,6 +49,7 @@ public final class PromiseTest {
         strip();
         woven();
         unweave();
+        unweaveFourStrips();
         many();
         takenDown();
         keepAndBack();
@@ -834,6 +835,23 @@ public final class PromiseTest {
         int[][] refused = {{-1, 0}, {1, 0}, {0, -1}, {0, 5}, {LOW, 0}, {HIGH, 0}, {0, HIGH}};
         for (int[] bad : refused) {
             due("24: unweave refused", x.unweave(bad[0], bad[1]), NUMBER);
+        }
+    }
+
+    private static void unweaveFourStrips() {
+        WeftShop x = sized(4, 10);
+        for (int weaver = 0; weaver < 4; weaver++) {
+            x.weaver(5, false);
+        }
+        due("24: four strips", x.up(), 4);
+        due("24: all woven", x.days(2), 10);
+        for (int strip = 3; strip >= 0; strip--) {
+            for (int pick = 9; pick >= 0; pick--) {
+                due("24: woven still", x.woven(strip, pick), 1);
+                due("24: a pick less", x.unweave(strip, pick), 1);
+                due("24: no more", x.woven(strip, pick), 0);
+                due("24: whole picks", x.strip(strip, 5), pick);
+            }
         }
     }
 
