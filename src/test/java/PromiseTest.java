@@ -521,6 +521,19 @@ public final class PromiseTest extends SentenceTest {
         due("none with lot 2", x.lot(2, 2), 0);
         x.paint(0, 0, 4, 1, 6);
         due("no field of its colour any more", x.lot(0, 2), 0);
+        WeftShop most = eightFieldsFourLots();
+        for (int lot = 0; lot < 4; lot++) {
+            due("lot(" + lot + ", 2) of 4 lots, 8 fields", most.lot(lot, 2), lot == 3 ? 6 : 5);
+        }
+    }
+
+    /** Yarn 5, 5, 5, 5, 5, 4, 6, 5 in four lots of 6. */
+    private static WeftShop eightFieldsFourLots() {
+        WeftShop x = specks(8);
+        for (int lot = 0; lot < 4; lot++) {
+            x.dye(1, 6);
+        }
+        return x;
     }
 
     private static void lotRefused() {
@@ -636,6 +649,7 @@ public final class PromiseTest extends SentenceTest {
         dealtDue(whole, 0, 0, 0, 1);
         whole.dye(0, 240);
         dealtDue(whole, 0, 240, 1, 0);
+        dealtDue(eightFieldsFourLots(), 1, 21, 4, 4);
     }
 
     private static void dealtDue(WeftShop x, int colour, int... want) {
@@ -748,6 +762,13 @@ public final class PromiseTest extends SentenceTest {
         shareDue(wide, 3, 4);
         wide.face(0, 0, true);
         shareDue(wide, 4, 4);
+        WeftShop hand = sized(2, 2);
+        hand.weaver(1, false);
+        shareDue(hand, 4, 1);
+        hand.face(0, 0, true);
+        shareDue(hand, NONE, NONE);
+        hand.face(0, 0, false);
+        shareDue(hand, 4, 1);
     }
 
     private static void shareDue(WeftShop x, int days, int strips) {
@@ -797,6 +818,8 @@ public final class PromiseTest extends SentenceTest {
         whoDue(x, 0, 0, 1);
         x.size(2, 10);
         whoDue(x, 0, 0);
+        x.face(0, 0, true);
+        whoDue(x, NONE, NONE);
         WeftShop wide = sized(12, 1);
         for (int i = 0; i < 4; i++) {
             wide.weaver(3, false);
@@ -848,6 +871,9 @@ public final class PromiseTest extends SentenceTest {
         due("down still", x.days(1), DOWN);
         due("taken off", x.face(1, 1, false), 1);
         due("up then", x.up(), 2);
+        due("put on", x.face(1, 1, true), 1);
+        due("up no more", x.up(), NONE);
+        due("down", x.many(5), 0);
     }
 
     // ---- 21
@@ -1060,10 +1086,18 @@ public final class PromiseTest extends SentenceTest {
         manyDue(x, 3, 4, 2, 2, 3, 3, 6, 2, 1);
         x.days(100);
         manyDue(x, 3, 4, 2, 2, 3, 3, 12, 102, 1);
-        x.unweave(0, 0);
-        manyDue(x, 3, 4, 2, 2, 3, 3, 8, 102, 1);
         x.speed(0, 1);
         manyDue(x, 3, 4, 2, 2, 3, 0, 0, 0, 1);
+        x.up();
+        x.days(100);
+        x.unweave(0, 0);
+        manyDue(x, 3, 4, 2, 2, 3, 3, 8, 100, 1);
+        // one strip, where there were three
+        x.speed(2, 20);
+        x.face(2, 3, false);
+        x.up();
+        x.days(100);
+        manyDue(x, 3, 4, 2, 2, 3, 1, 12, 100, 0);
         x.size(12, 10);
         manyDue(x, 12, 10, 1, 2, 3, 0, 0, 0, 0);
         WeftShop faces = sized(12, 10);
@@ -1073,6 +1107,10 @@ public final class PromiseTest extends SentenceTest {
         faces.up();
         faces.days(18);
         manyDue(faces, 12, 10, 1, 0, 1, 1, 120, 18, 120);
+        WeftShop four = fourAlike(10);
+        four.up();
+        four.days(2);
+        manyDue(four, 12, 10, 1, 0, 4, 4, 80, 2, 0);
     }
 
     private static void manyDue(WeftShop x, int... want) {

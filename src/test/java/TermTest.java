@@ -352,13 +352,19 @@ public final class TermTest extends SentenceTest {
         due("dealt", x.dealt(1, 0), 42);
     }
 
-    /** 8 fields and 4 lots: yarn 5, 5, 5, 5, 5, 4, 6, 5 in four lots of 6. */
+    /** 8 fields, yarn 5, 5, 5, 5, 5, 4, 6, 5, and one lot to four of 6: that of 6 is dealt whatever comes first. */
     private static void ofTheMost() {
         WeftShop x = specks(8);
-        for (int lot = 0; lot < 4; lot++) {
-            x.dye(1, 6);
-        }
-        int[] want = {0, 1, 2, NONE, NONE, NONE, 3, NONE};
+        x.dye(1, 6);
+        specksDue(x, NONE, NONE, NONE, NONE, NONE, NONE, 0, NONE);
+        x.dye(1, 6);
+        specksDue(x, 0, NONE, NONE, NONE, NONE, NONE, 1, NONE);
+        x.dye(1, 6);
+        x.dye(1, 6);
+        specksDue(x, 0, 1, 2, NONE, NONE, NONE, 3, NONE);
+    }
+
+    private static void specksDue(WeftShop x, int... want) {
         int seen = 0;
         for (int field = 0; field < 9; field++) {
             if (x.of(field, 0) == 1) {
