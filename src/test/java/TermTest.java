@@ -329,6 +329,13 @@ public final class TermTest extends SentenceTest {
         behind.dye(1, 4);
         behind.dye(1, 8);
         dealDue(behind, 1, 0, NONE, NONE);
+        // the last field fits into lot 3 with the first, but lot 2 is lesser
+        WeftShop last = bars(2, 1);
+        last.dye(1, 3);
+        last.dye(1, 3);
+        last.dye(1, 4);
+        last.dye(1, 10);
+        dealDue(last, 3, 2);
         ofFarTies();
         ofTheMost();
     }
