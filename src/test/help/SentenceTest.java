@@ -340,8 +340,8 @@ abstract class SentenceTest {
             if (title.startsWith("Promise")) {
                 plain = plain.replaceFirst("^`[^`]*`: ", "");
             }
-            // what the document tells of its own order, and its first line, ask for nothing that isn't told again
-            if (plain.isEmpty() || plain.startsWith("Ahead of the calls") || plain.startsWith("A tapestry shop:")) {
+            // what stands ahead of the calls is for the source, and LanguageTest looks at that
+            if (plain.isEmpty() || plain.startsWith("Ahead of the calls")) {
                 continue;
             }
             for (String words : plain.split("(?<=\\.)\\s|(?<=\\.\\))\\s")) {

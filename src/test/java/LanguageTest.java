@@ -16,6 +16,7 @@ import java.util.regex.Pattern;
 /** The class's face as the document writes it, and those rules of LANGUAGE.md that a test can see. */
 public final class LanguageTest {
     private static final Path SOURCE = Path.of("src/main/java/WeftShop.java");
+    private static final Path DOCUMENT = Path.of("../shared/DOC.md");
     private static final String[] FACE = {
         "size(int,int)", "paint(int,int,int,int,int)", "face(int,int,boolean)", "cartoon(int,int)", "loom(int,int)",
         "rule(int,int)", "slits(int)", "slit(int,int)", "field(int,int)", "of(int,int)", "dye(int,int)",
@@ -44,6 +45,9 @@ public final class LanguageTest {
         words(withoutComments(text));
         check(text.chars().allMatch(sign -> sign < 128), "signs beyond 127 in the source");
         methods(withoutComments(text));
+        if (Files.exists(DOCUMENT)) {
+            document(Files.readString(DOCUMENT), text);
+        }
         System.out.println("LanguageTest: " + wrong + " rules broken");
         if (wrong != 0) {
             System.exit(1);
@@ -171,5 +175,43 @@ public final class LanguageTest {
                 start = -1;
             }
         }
+    }
+
+    private static void document(String document, String text) {
+        Matcher block = Pattern.compile("(?s)```java\n(.*?)```").matcher(document);
+        check(block.find(), "the document has a public face");
+        List<String> written = new ArrayList<>();
+        for (String line : text.split("\n")) {
+            if (line.matches("( {4})?public .*")) {
+                written.add(line.replaceFirst(" \\{$", ";"));
+            }
+        }
+        List<String> due = new ArrayList<>();
+        for (String line : block.group(1).split("\n")) {
+            if (line.contains("public ")) {
+                due.add(line.replaceFirst(" \\{$", ";"));
+            }
+        }
+        check(written.equals(due), "the public face, line by line: " + written);
+        check(headings(text).equals(headingsDue(document)), "what stands ahead of the calls: " + headings(text));
+    }
+
+    private static List<String> headingsDue(String document) {
+        List<String> due = new ArrayList<>();
+        Matcher ahead = Pattern.compile("Ahead of the calls (.*) the interface says: (---- .*)\\.").matcher(document);
+        while (ahead.find()) {
+            due.add(ahead.group(2));
+            due.addAll(Arrays.asList(ahead.group(1).replace("`", "").split(", ")));
+        }
+        return due;
+    }
+
+    private static List<String> headings(String text) {
+        List<String> seen = new ArrayList<>();
+        Matcher line = Pattern.compile("(?m)^ {4}(?:// (---- .*)|public int (\\w+)\\(.*)$").matcher(text);
+        while (line.find()) {
+            seen.add(line.group(1) != null ? line.group(1) : line.group(2));
+        }
+        return seen;
     }
 }

@@ -3,6 +3,7 @@ import java.io.IOException;
 /** The sentences that the document sets ahead of its promises: its words, its constants, what refusals are. */
 public final class TermTest extends SentenceTest {
     public static void main(String[] args) throws IOException {
+        tapestryShop();
         calls();
         cartoon();
         mirrored();
@@ -28,6 +29,47 @@ public final class TermTest extends SentenceTest {
         firstRefusal();
         constants();
         end("TermTest", "What it is", "Terms");
+    }
+
+    /** On the loom, 4 warps and 6 picks: colour 1 at warps 2 and 3 from pick 0 to 4, a face at warp 3, pick 5. */
+    private static void tapestryShop() {
+        sentence("What it is", "A tapestry shop: cartoons are woven mirrored, slits between colours are told and those too"
+            + " long are sewn, fields of one colour get one lot of dye each where lots suffice, the loom's width is shared"
+            + " among weavers in the fewest days with faces for masters, strips keep in step from day to day, and a spoilt"
+            + " strip is unwoven from its pick on.");
+        WeftShop x = sized(4, 6);
+        x.paint(0, 0, 2, 5, 1);
+        x.face(0, 5, true);
+        due("mirrored", x.loom(3, 0), 1);
+        due("mirrored", x.loom(0, 0), 0);
+        due("mirrored", x.loom(3, 5), 8);
+        due("a slit is told", x.slit(1, 0), 5);
+        due("5 is too long", x.slits(1), 1);
+        x.dye(1, 26);
+        x.dye(1, 27);
+        due("a field of 10 squares and 7 sides", x.of(1, 2), 27);
+        due("the lot that suffices", x.deal(1), 1);
+        x.dye(0, 34);
+        due("a field of 14 squares and 7 sides, and no lot for it", x.deal(0), NONE);
+        x.weaver(6, false);
+        x.weaver(2, true);
+        due("work of 18 by 6, 8 by 2", x.share(0), 4);
+        whoDue(x, 0, 0, 0, 1);
+        due("two strips", x.up(), 2);
+        due("G is 1", x.rule(1, 1), 10);
+        due("two picks of 3, two of 1", x.days(1), 2);
+        due("in step", x.days(1), 4);
+        due("the hand's strip is spoilt from pick 2 on", x.unweave(0, 2), 6);
+        stripsDue(x, 5, 2, 4);
+        due("the master waits", x.days(1), 4);
+        stripsDue(x, 3, 12, 4);
+        due("the face takes longer", x.days(1), 5);
+        stripsDue(x, 3, 18, 6);
+        due("the face isn't woven", x.woven(3, 5), 0);
+        due("all is", x.days(1), 6);
+        due("the face is woven", x.woven(3, 5), 1);
+        due("the face is spoilt", x.unweave(1, 5), 3);
+        due("one square less", x.many(6), 23);
     }
 
     private static void calls() {
